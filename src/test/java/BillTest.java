@@ -19,12 +19,6 @@ public final class BillTest {
         checks.end();
     }
 
-    private static void dueLine(Checks checks, PortBills bills, int i, long... parts) {
-        for (int what = 0; what < parts.length; what++) {
-            checks.due("line(" + i + ", " + what + ")", bills.line(i, what), parts[what]);
-        }
-    }
-
     private static PortBills billed(String text, int kind, int... amounts) {
         PortBills bills = new PortBills();
         Checks.readText(bills, text);
@@ -55,10 +49,10 @@ public final class BillTest {
         bills.event(7, 5, 2);
         bills.event(7, 4, 1001);
         checks.due("bill(7)", bills.bill(7), 4);
-        dueLine(checks, bills, 0, 7, 0, 4, 4, 8, -1, 0, 0, 8);
-        dueLine(checks, bills, 1, 7, 2, 2, 2, 6, -1, 0, 0, 6);
-        dueLine(checks, bills, 2, 7, 4, 2, 2, 14, -1, 0, 1, 14);
-        dueLine(checks, bills, 3, 7, 5, 5, 4, 20, -1, 0, 0, 20);
+        checks.dueLine(bills, 0, 7, 0, 4, 4, 8, -1, 0, 0, 8);
+        checks.dueLine(bills, 1, 7, 2, 2, 2, 6, -1, 0, 0, 6);
+        checks.dueLine(bills, 2, 7, 4, 2, 2, 14, -1, 0, 1, 14);
+        checks.dueLine(bills, 3, 7, 5, 5, 4, 20, -1, 0, 0, 20);
         checks.due("bill(7) again", bills.bill(7), 0);
         checks.due("count(2)", bills.count(2), 4);
     }
@@ -74,7 +68,7 @@ public final class BillTest {
         checks.due("count(1)", bills.count(1), 2);
         checks.due("bill(2)", bills.bill(2), 0);
         checks.due("bill(1)", bills.bill(1), 2);
-        dueLine(checks, bills, 1, 1, 0, 2);
+        checks.dueLine(bills, 1, 1, 0, 2);
         checks.due("count(1)", bills.count(1), 0);
     }
 
@@ -85,12 +79,12 @@ public final class BillTest {
             bills.event(0, 0, amount);
             checks.due("bill of " + amount, bills.bill(0), 1);
         }
-        dueLine(checks, bills, 0, 0, 0, 2, 0, 0);
-        dueLine(checks, bills, 1, 0, 0, 3, 0, 0);
-        dueLine(checks, bills, 2, 0, 0, 4, 1, 10);
-        dueLine(checks, bills, 3, 0, 0, 10, 7, 70);
+        checks.dueLine(bills, 0, 0, 0, 2, 0, 0);
+        checks.dueLine(bills, 1, 0, 0, 3, 0, 0);
+        checks.dueLine(bills, 2, 0, 0, 4, 1, 10);
+        checks.dueLine(bills, 3, 0, 0, 10, 7, 70);
         PortBills together = billed("A10-3;", 0, 2, 2, 2);
-        dueLine(checks, together, 0, 0, 0, 6, 3, 30);
+        checks.dueLine(together, 0, 0, 0, 6, 3, 30);
     }
 
     private static void halfACentGoesUp(Checks checks) {
@@ -129,10 +123,10 @@ public final class BillTest {
         bills.bill(0);
         bills.event(0, 1, 1);
         bills.bill(0);
-        dueLine(checks, bills, 0, 0, 0, 5, 5, 8);
-        dueLine(checks, bills, 1, 0, 0, 1, 1, 4);
-        dueLine(checks, bills, 2, 0, 1, 9, 8, 4);
-        dueLine(checks, bills, 3, 0, 1, 1, 0, 0);
+        checks.dueLine(bills, 0, 0, 0, 5, 5, 8);
+        checks.dueLine(bills, 1, 0, 0, 1, 1, 4);
+        checks.dueLine(bills, 2, 0, 1, 9, 8, 4);
+        checks.dueLine(bills, 3, 0, 1, 1, 0, 0);
     }
 
     private static void fallback(Checks checks) {
@@ -141,7 +135,7 @@ public final class BillTest {
             int units = bills.event(3, kind, 2881);
             bills.discount(3, kind, 1, 2);
             bills.bill(3);
-            dueLine(checks, bills, 0, 3, kind, units, units, (7L * units + 1) / 2, -1, 0, 1);
+            checks.dueLine(bills, 0, 3, kind, units, units, (7L * units + 1) / 2, -1, 0, 1);
         }
     }
 
@@ -153,8 +147,8 @@ public final class BillTest {
         Checks.readText(bills, "A2;");
         bills.event(0, 0, 10);
         bills.bill(0);
-        dueLine(checks, bills, 0, 0, 0, 10, 10, 10, -1, 0, 0, 10);
-        dueLine(checks, bills, 1, 0, 0, 10, 10, 20, -1, 0, 0, 20);
+        checks.dueLine(bills, 0, 0, 0, 10, 10, 10, -1, 0, 0, 10);
+        checks.dueLine(bills, 1, 0, 0, 10, 10, 20, -1, 0, 0, 20);
     }
 
     private static void largestSums(Checks checks) {
@@ -170,11 +164,11 @@ public final class BillTest {
             }
             bills.bill(0);
         }
-        dueLine(checks, bills, 0, 0, 0, 5000000, 5000000, 4999995000000L);
+        checks.dueLine(bills, 0, 0, 0, 5000000, 5000000, 4999995000000L);
         // three times 99 / 100 leave 0.970299
         long want = new BigDecimal("0.970299").multiply(BigDecimal.valueOf(999999L * 5000000))
             .divide(BigDecimal.valueOf(9999), 0, RoundingMode.HALF_UP).longValueExact();
-        dueLine(checks, bills, 1, 0, 1, 5000000, 5000000, want);
+        checks.dueLine(bills, 1, 0, 1, 5000000, 5000000, want);
     }
 
     private static void roomFor200(Checks checks) {

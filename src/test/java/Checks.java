@@ -60,6 +60,13 @@ final class Checks {
         dueThrow(call, IllegalStateException.class, made);
     }
 
+    /** The first parts of line i, from what 0 on. */
+    void dueLine(PortBills bills, int i, long... parts) {
+        for (int what = 0; what < parts.length; what++) {
+            due("line(" + i + ", " + what + ")", bills.line(i, what), parts[what]);
+        }
+    }
+
     void end() {
         System.out.println(test + ": " + looked + " looked at, " + wrong + " wrong");
         if (wrong != 0 || looked == 0) {

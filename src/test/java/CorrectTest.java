@@ -21,20 +21,14 @@ public final class CorrectTest {
         return bills;
     }
 
-    private static void dueLine(Checks checks, PortBills bills, int i, long... parts) {
-        for (int what = 0; what < parts.length; what++) {
-            checks.due("line(" + i + ", " + what + ")", bills.line(i, what), parts[what]);
-        }
-    }
-
     private static void aCorrectionIsALineOfItsOwn(Checks checks) {
         PortBills bills = twoLines();
         checks.due("correct(0, 50)", bills.correct(0, 50), 2);
-        dueLine(checks, bills, 0, 4, 1, 3, 3, 30, -1, 0, 0, 50);
-        dueLine(checks, bills, 2, 4, 1, 0, 0, 20, 0, 0, 0, 20);
+        checks.dueLine(bills, 0, 4, 1, 3, 3, 30, -1, 0, 0, 50);
+        checks.dueLine(bills, 2, 4, 1, 0, 0, 20, 0, 0, 0, 20);
         checks.due("correct(1, 1)", bills.correct(1, 1), 3);
-        dueLine(checks, bills, 1, 4, 2, 1, 1, 7, -1, 0, 1, 1);
-        dueLine(checks, bills, 3, 4, 2, 0, 0, -6, 1, 0, 0, -6);
+        checks.dueLine(bills, 1, 4, 2, 1, 1, 7, -1, 0, 1, 1);
+        checks.dueLine(bills, 3, 4, 2, 0, 0, -6, 1, 0, 0, -6);
         checks.due("count(2)", bills.count(2), 4);
         checks.due("count(14)", bills.count(14), 4);
         checks.due("unpaid(4)", bills.unpaid(4), 51);
@@ -45,10 +39,10 @@ public final class CorrectTest {
         checks.due("correct(0, MOST)", bills.correct(0, MOST), 2);
         checks.due("correct(0, 0)", bills.correct(0, 0), 3);
         checks.due("correct(0, 30)", bills.correct(0, 30), 4);
-        dueLine(checks, bills, 2, 4, 1, 0, 0, MOST - 30, 0, 0, 0, MOST - 30);
-        dueLine(checks, bills, 3, 4, 1, 0, 0, -MOST, 0, 0, 0, -MOST);
-        dueLine(checks, bills, 4, 4, 1, 0, 0, 30, 0, 0, 0, 30);
-        dueLine(checks, bills, 0, 4, 1, 3, 3, 30, -1, 0, 0, 30);
+        checks.dueLine(bills, 2, 4, 1, 0, 0, MOST - 30, 0, 0, 0, MOST - 30);
+        checks.dueLine(bills, 3, 4, 1, 0, 0, -MOST, 0, 0, 0, -MOST);
+        checks.dueLine(bills, 4, 4, 1, 0, 0, 30, 0, 0, 0, 30);
+        checks.dueLine(bills, 0, 4, 1, 3, 3, 30, -1, 0, 0, 30);
         checks.due("unpaid(4)", bills.unpaid(4), 37);
     }
 

@@ -14,9 +14,7 @@ public final class LineTest {
         long[][] want = {{8, 2, 10, 8, 34, -1, 1, 0, 33}, {8, 3, 1, 1, 7, -1, 0, 1, 7},
             {8, 2, 0, 0, -14, 0, 1, 0, -14}, {8, 2, 0, 0, 13, 0, 1, 0, 13}};
         for (int i = 0; i < want.length; i++) {
-            for (int what = 0; what < 9; what++) {
-                checks.due("line(" + i + ", " + what + ")", bills.line(i, what), want[i][what]);
-            }
+            checks.dueLine(bills, i, want[i]);
         }
         int[][] wrong = {{-1, 0}, {4, 0}, {0, -1}, {0, 9}, {200, 0}, {-1, -1}, {4, 9}, {Integer.MIN_VALUE, 0},
             {Integer.MAX_VALUE, 0}, {0, Integer.MIN_VALUE}, {0, Integer.MAX_VALUE}};
