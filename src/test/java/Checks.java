@@ -25,6 +25,14 @@ final class Checks {
         due(call, got ? 1 : 0, want ? 1 : 0);
     }
 
+    void dueText(String call, String got, String want) {
+        looked++;
+        if (!got.equals(want)) {
+            wrong++;
+            System.out.println(test + ": " + call + ": " + got + ", due is " + want);
+        }
+    }
+
     /** The class must be the very one: an exception of the machine is often a class below it. */
     void dueThrow(String call, Class<? extends RuntimeException> want, Call made) {
         looked++;
@@ -58,6 +66,12 @@ final class Checks {
 
     void dueIllegalState(String call, Call made) {
         dueThrow(call, IllegalStateException.class, made);
+    }
+
+    void dueTariff(PortBills bills, int kind, int... parts) {
+        for (int what = 0; what < parts.length; what++) {
+            due("tariff(" + kind + ", " + what + ")", bills.tariff(kind, what), parts[what]);
+        }
     }
 
     /** The first parts of line i, from what 0 on. */
